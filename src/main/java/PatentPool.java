@@ -1337,9 +1337,18 @@ public final class PatentPool {
 
         private int readFactor(int brackets) {
             if (tokens.isSign('(')) {
-                return readBracket(brackets);
-            }
-            if (tokens.kind == NUMBER) {
+                if (brackets >= MAX_OPEN_BRACKETS) {
+                    return BEYOND_LIMIT;
+                }
+                tokens.next();
+                int error = readSum(brackets + 1);
+                if (error != FINE) {
+                    return error;
+                }
+                if (!tokens.isSign(')')) {
+                    return BAD_TOKEN;
+                }
+            } else if (tokens.kind == NUMBER) {
                 terms.formula.add(tokens.value);
             } else if (tokens.isWord("patents")) {
                 terms.formula.add(PATENTS_CODE);
@@ -1348,22 +1357,6 @@ public final class PatentPool {
             } else if (tokens.isWord("days")) {
                 terms.formula.add(DAYS_CODE);
             } else {
-                return BAD_TOKEN;
-            }
-            tokens.next();
-            return FINE;
-        }
-
-        private int readBracket(int brackets) {
-            if (brackets >= MAX_OPEN_BRACKETS) {
-                return BEYOND_LIMIT;
-            }
-            tokens.next();
-            int error = readSum(brackets + 1);
-            if (error != FINE) {
-                return error;
-            }
-            if (!tokens.isSign(')')) {
                 return BAD_TOKEN;
             }
             tokens.next();

@@ -167,7 +167,9 @@ public final class MoneyTest {
         Check.same("the largest", 1, pool::largestDebtor);
         pool.pay(1, 30);
         Check.same("the next", 0, pool::largestDebtor);
-        pool.pay(0, 29);
+        pool.pay(0, 28);
+        Check.same("one cent", 0, pool::largestDebtor);
+        pool.pay(0, 1);
         Check.same("nobody again", -1, pool::largestDebtor);
         Check.same("no licensees", -1, () -> new PatentPool().largestDebtor());
         PatentPool large = Check.pool("version 0 9999; licensee 0; licensee 0; penalty 400;");

@@ -139,6 +139,10 @@ public final class PoolTextTest {
         pool.saveSnapshot(1);
         Check.same("a second text", 0, () -> Check.parse(pool,
                 "member 0; version 0 10; patent 0 50; licensee 0;"));
+        for (int what = 0; what < 4; what++) {
+            int kind = what;
+            Check.same("size again " + kind, 1, () -> pool.size(kind));
+        }
         Check.same("day again", 0, pool::today);
         Check.same("period again", 0, pool::period);
         Check.same("history again", -1, pool::undo);
@@ -259,6 +263,9 @@ public final class PoolTextTest {
         Check.error("cap 5,;", 1, 5);
         Check.error("cap 5:", 1, 5);
         Check.error("memb er 5;", 1, 0);
+        Check.error("bap 5;", 1, 0);
+        Check.error("cup 5;", 1, 0);
+        Check.error("caq 5;", 1, 0);
         Check.error("member 1 2;", 1, 9);
         Check.error("weight days_;", 1, 11);
         Check.error("cap 5" + (char) 233 + ";", 1, 5);

@@ -4,6 +4,7 @@ public final class UndoTest {
 
     public static void main(String[] args) {
         promise35EachChange();
+        promise35HighestNumbers();
         promise35TenChanges();
         promise35WhatIsNoChange();
         promise36SaveSnapshot();
@@ -88,6 +89,32 @@ public final class UndoTest {
         }
         Check.same("the rest is lost", -1, pool::undo);
         Check.same("two changes stay", 3, () -> pool.size(0));
+    }
+
+    private static void promise35HighestNumbers() {
+        PatentPool pool = Check.pool("member 0;".repeat(8) + "version 0 1;".repeat(4) + "patent 7 99;".repeat(16)
+                + "licensee 0;".repeat(6) + "quorum 1 1;weight 1;costs 0;");
+        pool.vote(4, 15, 3, true);
+        pool.vote(4, 15, 2, false);
+        pool.report(5, 3, 800);
+        pool.pay(5, 600);
+        pool.close();
+        pool.report(5, 3, 7);
+        String before = seen(pool);
+        pool.saveSnapshot(1);
+        pool.vote(4, 15, 3, false);
+        pool.vote(4, 15, 2, true);
+        pool.audit(5, 3, 9);
+        pool.payOut(7);
+        for (int left = 9; left >= 6; left--) {
+            pool.undo();
+        }
+        Check.same("highest numbers undone", before, () -> seen(pool));
+        pool.payOut(7);
+        pool.reopen(15, 3);
+        pool.report(5, 3, 1);
+        pool.restoreSnapshot(1);
+        Check.same("highest numbers restored", before, () -> seen(pool));
     }
 
     private static void promise35TenChanges() {

@@ -3,11 +3,14 @@ public final class WeightTest {
     public static void main(String[] args) {
         promise13Operands();
         promise13Formulas();
+        promise13Zero();
         promise13LongFormula();
         promise13Late();
         promise14WeightAfter();
         promise15Shares();
         promise15Caps();
+        promise15EightRounds();
+        promise15EightRemainders();
         promise15Wrong();
         promise16SmallestMajority();
         promise17Power();
@@ -100,6 +103,11 @@ public final class WeightTest {
         return Math.max(0, Math.min(1000000, value));
     }
 
+    private static void promise13Zero() {
+        PatentPool pool = weighted("weight 0;", 2);
+        Check.same("a number 0 is no operand", 0, () -> pool.weight(0));
+    }
+
     private static void promise13LongFormula() {
         String sum = "1" + "+1".repeat(340);
         PatentPool pool = Check.pool("member 0;weight " + sum + ";");
@@ -145,6 +153,9 @@ public final class WeightTest {
         Check.same("on joining", 50, () -> pool.weightAfter(1, 10));
         Check.same("the last day in force", 50, () -> pool.weightAfter(1, 11));
         Check.same("the day of expiry", 1, () -> pool.weightAfter(1, 12));
+        PatentPool fixed = Check.pool("member 10; weight 5;");
+        Check.same("a day before joining", 0, () -> fixed.weightAfter(0, 9));
+        Check.same("the day of joining", 5, () -> fixed.weightAfter(0, 10));
         pool.advance(4);
         pool.vote(0, 0, 1, true);
         Check.same("a second version", 204, () -> pool.weightAfter(0, 0));
@@ -220,6 +231,21 @@ public final class WeightTest {
         shares(weighted("cap 25;", 1, 1, 1, 1), 7, 1, 1, 1, 1);
         shares(weighted("cap 30;", 1, 1, 1, 2), 7, 2, 2, 1, 2);
         shares(weighted("cap 100;", 1, 1), 1000000000, 500000000, 500000000);
+        shares(weighted("cap 50;", 1, 4, 7), 4, 1, 1, 2);
+    }
+
+    private static void promise15EightRounds() {
+        PatentPool pool = Check.pool("member 0; member 427; member 579; member 636; member 658; member 667;"
+                + "member 671; member 673; cap 12; weight days * days;");
+        pool.advance(683);
+        shares(pool, 10000, 1200, 1200, 1200, 1200, 1200, 1200, 1200, 1200);
+    }
+
+    private static void promise15EightRemainders() {
+        PatentPool pool = Check.pool("member 0; member 24; member 24; member 24; member 24; member 24;"
+                + "member 24; member 24; cap 35; weight days;");
+        pool.advance(31);
+        shares(pool, 10, 3, 1, 1, 1, 1, 1, 1, 1);
     }
 
     private static void promise15Wrong() {
@@ -233,7 +259,8 @@ public final class WeightTest {
     }
 
     private static void promise16SmallestMajority() {
-        Check.same("one of three", 4, () -> weighted("", 1, 2, 4).smallestMajority());
+        Check.same("the first of three", 1, () -> weighted("", 4, 2, 1).smallestMajority());
+        Check.same("the last of three", 4, () -> weighted("", 1, 2, 4).smallestMajority());
         Check.same("two of three", 3, () -> weighted("", 2, 2, 2).smallestMajority());
         Check.same("half is not enough", 3, () -> weighted("", 3, 1, 2).smallestMajority());
         Check.same("exactly half", 3, () -> weighted("", 4, 2, 2).smallestMajority());
