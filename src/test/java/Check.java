@@ -84,6 +84,14 @@ final class Check {
         }
     }
 
+    static int done() {
+        return done;
+    }
+
+    static int wrong() {
+        return wrong;
+    }
+
     static void end() {
         System.out.println(done + " checks, " + wrong + " wrong");
         if (wrong != 0) {

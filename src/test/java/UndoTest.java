@@ -12,36 +12,6 @@ public final class UndoTest {
         Check.end();
     }
 
-    /** Everything that can be seen of a pool. */
-    static String seen(PatentPool pool) {
-        StringBuilder all = new StringBuilder();
-        all.append(pool.today()).append(' ').append(pool.period()).append(' ').append(pool.smallestMajority())
-                .append(' ').append(pool.largestDebtor());
-        for (int what = 0; what < 5; what++) {
-            all.append(" total ").append(pool.total(what));
-        }
-        for (int member = 0; member < pool.size(0); member++) {
-            all.append(" member ").append(pool.weight(member)).append(' ').append(pool.account(member))
-                    .append(' ').append(pool.latestShare(member)).append(' ').append(pool.firstToExpire(member))
-                    .append(' ').append(pool.weightAfter(member, 9)).append(' ').append(pool.power(member))
-                    .append(' ').append(pool.shareOf(member, 1001));
-        }
-        for (int version = 0; version < pool.size(1); version++) {
-            for (int patent = 0; patent < pool.size(2); patent++) {
-                all.append(" pair ").append(pool.voters(patent, version, true)).append(' ')
-                        .append(pool.voters(patent, version, false)).append(' ')
-                        .append(pool.counts(patent, version));
-            }
-            for (int licensee = 0; licensee < pool.size(3); licensee++) {
-                all.append(" units ").append(pool.reported(licensee, version));
-            }
-        }
-        for (int licensee = 0; licensee < pool.size(3); licensee++) {
-            all.append(" owed ").append(pool.owed(licensee));
-        }
-        return all.toString();
-    }
-
     private static Object change(PatentPool pool, int number) {
         switch (number) {
             case 0:
@@ -74,15 +44,15 @@ public final class UndoTest {
     private static void promise35EachChange() {
         PatentPool pool = Check.pool(TEXT);
         for (int number = 0; number < 12; number++) {
-            String before = seen(pool);
+            String before = Trace.seen(pool);
             Object answer = change(pool, number);
-            String after = seen(pool);
+            String after = Trace.seen(pool);
             int left = Math.min(number, 9);
             Check.same("undo of " + number, left, pool::undo);
-            Check.same("as before " + number, before, () -> seen(pool));
+            Check.same("as before " + number, before, () -> Trace.seen(pool));
             int again = number;
             Check.same("again " + number, answer, () -> change(pool, again));
-            Check.same("as after " + number, after, () -> seen(pool));
+            Check.same("as after " + number, after, () -> Trace.seen(pool));
         }
         for (int left = 9; left >= 0; left--) {
             Check.same("undo of all", left, pool::undo);
@@ -100,7 +70,7 @@ public final class UndoTest {
         pool.pay(5, 600);
         pool.close();
         pool.report(5, 3, 7);
-        String before = seen(pool);
+        String before = Trace.seen(pool);
         pool.saveSnapshot(1);
         pool.vote(4, 15, 3, false);
         pool.vote(4, 15, 2, true);
@@ -109,12 +79,12 @@ public final class UndoTest {
         for (int left = 9; left >= 6; left--) {
             pool.undo();
         }
-        Check.same("highest numbers undone", before, () -> seen(pool));
+        Check.same("highest numbers undone", before, () -> Trace.seen(pool));
         pool.payOut(7);
         pool.reopen(15, 3);
         pool.report(5, 3, 1);
         pool.restoreSnapshot(1);
-        Check.same("highest numbers restored", before, () -> seen(pool));
+        Check.same("highest numbers restored", before, () -> Trace.seen(pool));
     }
 
     private static void promise35TenChanges() {
@@ -143,7 +113,7 @@ public final class UndoTest {
         PatentPool pool = Check.pool(TEXT);
         pool.advance(1);
         pool.saveSnapshot(0);
-        seen(pool);
+        Trace.seen(pool);
         Check.outcome(() -> pool.pay(0, 1));
         Check.outcome(() -> pool.close());
         Check.outcome(() -> pool.advance(0));
@@ -177,21 +147,21 @@ public final class UndoTest {
         Check.index("no such slot", () -> pool.restoreSnapshot(2));
         Check.index("below all slots", () -> pool.restoreSnapshot(-1));
         for (int number = 0; number < 12; number++) {
-            String before = seen(pool);
+            String before = Trace.seen(pool);
             pool.saveSnapshot(0);
             Object answer = change(pool, number);
-            String after = seen(pool);
+            String after = Trace.seen(pool);
             pool.saveSnapshot(1);
             int day = number == 0 ? 0 : 3;
             Check.same("restored " + number, day, () -> pool.restoreSnapshot(0));
-            Check.same("as before " + number, before, () -> seen(pool));
+            Check.same("as before " + number, before, () -> Trace.seen(pool));
             Check.same("no history", -1, pool::undo);
             int again = number;
             Check.same("again " + number, answer, () -> change(pool, again));
             Check.same("restored once more", day, () -> pool.restoreSnapshot(0));
-            Check.same("the snapshot stays as it is " + number, before, () -> seen(pool));
+            Check.same("the snapshot stays as it is " + number, before, () -> Trace.seen(pool));
             pool.restoreSnapshot(1);
-            Check.same("as after " + number, after, () -> seen(pool));
+            Check.same("as after " + number, after, () -> Trace.seen(pool));
         }
         pool.advance(1);
         Check.state("an empty slot of another pool", () -> Check.pool(TEXT).restoreSnapshot(1));
