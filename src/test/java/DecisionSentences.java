@@ -118,24 +118,32 @@ final class DecisionSentences {
         }
     }
 
-    private static void everyQuorum() {
+    private interface OfVotes {
+        int due(int votes, int percent, int yes, int no);
+    }
+
+    /** Every quorum that can differ, with every number of yes and no votes. */
+    private static void everyVote(OfPair asked, OfVotes rule) {
         for (int votes = 1; votes <= 5; votes++) {
             for (int percent : PERCENTS) {
                 PatentPool pool = quorum(votes, percent);
                 for (int yes = 0; yes <= 5; yes++) {
                     for (int no = 0; yes + no <= 5; no++) {
                         Check.votes(pool, 0, 0, yes, no);
-                        int cast = yes + no;
-                        int due = cast < votes ? 0 : yes * 100 >= percent * cast ? 1 : 2;
-                        Check.same(yes + " yes, " + no + " no, quorum " + votes + " " + percent, due,
-                                () -> pool.decision(0, 0));
-                        if (cast > 0) {
+                        Check.same(yes + " yes, " + no + " no, quorum " + votes + " " + percent,
+                                rule.due(votes, percent, yes, no), () -> asked.answer(pool, 0, 0));
+                        if (yes + no > 0) {
                             pool.reopen(0, 0);
                         }
                     }
                 }
             }
         }
+    }
+
+    private static void everyQuorum() {
+        everyVote(PatentPool::decision, (votes, percent, yes, no) ->
+                yes + no < votes ? 0 : yes * 100 >= percent * (yes + no) ? 1 : 2);
     }
 
     // ---- days
@@ -298,21 +306,7 @@ final class DecisionSentences {
     }
 
     private static void everyNeed() {
-        for (int votes = 1; votes <= 5; votes++) {
-            for (int percent : PERCENTS) {
-                PatentPool pool = quorum(votes, percent);
-                for (int yes = 0; yes <= 5; yes++) {
-                    for (int no = 0; yes + no <= 5; no++) {
-                        Check.votes(pool, 0, 0, yes, no);
-                        Check.same("needed with " + yes + " yes, " + no + " no, quorum " + votes + " " + percent,
-                                needed(votes, percent, yes, no), () -> pool.votesNeeded(0, 0));
-                        if (yes + no > 0) {
-                            pool.reopen(0, 0);
-                        }
-                    }
-                }
-            }
-        }
+        everyVote(PatentPool::votesNeeded, DecisionSentences::needed);
     }
 
     private static int needed(int votes, int percent, int yes, int no) {

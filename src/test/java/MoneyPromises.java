@@ -188,6 +188,9 @@ final class MoneyPromises {
         }
         Check.same("a large debt", 9999, () -> pool.grantBack(0));
         Check.same("owed then", 99999L * 9999 * 5 - 9999, () -> pool.owed(0));
+        PatentPool part = Check.pool("version 0 9999;licensee 0;penalty 400;credit 9999 1;");
+        part.audit(0, 0, 60000);
+        Check.same("a part of a debt above the ints", 9999, () -> part.grantBack(0));
     }
 
     private static void noCredit() {
@@ -218,6 +221,10 @@ final class MoneyPromises {
             int one = licensee;
             Check.same("each has a credit of its own", 20, () -> last.grantBack(one));
             Check.state("and only one", () -> last.grantBack(one));
+        }
+        for (int licensee = 0; licensee < 6; licensee++) {
+            int one = licensee;
+            Check.state("also when others have got theirs", () -> last.grantBack(one));
         }
     }
 

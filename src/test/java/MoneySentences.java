@@ -229,7 +229,7 @@ final class MoneySentences {
         pool.pay(0, 1);
         Check.same("nobody again", -1, pool::largestDebtor);
         PatentPool last = Check.pool("version 0 9999;" + "licensee 0;".repeat(6) + "penalty 400;");
-        last.audit(1, 0, 9999);
+        last.audit(1, 0, 20000);
         last.audit(5, 0, 99999);
         Check.same("the last, more than an int", 5, last::largestDebtor);
     }

@@ -112,7 +112,29 @@ final class SharingSentences {
         shares("cap 50;", by(1, 2, 7), 100, 0, 17, 33, 50);
         shares("cap 35;", by(1, 3, 4, 8), 1000, 0, 81, 244, 325, 350);
         PatentPool large = Check.pool("member 0;".repeat(8) + "weight 1000*1000;");
-        Check.same("the largest products", 125000000, () -> large.shareOf(7, 1000000000));
+        Check.same("the largest weights", 125000000, () -> large.shareOf(7, 1000000000));
+        largestProducts();
+    }
+
+    /** As much as 24 audits bring, by the largest weights: products far above the ints. */
+    private static void largestProducts() {
+        PatentPool pool = Check.pool("member 0;".repeat(3) + "version 0 9999;".repeat(4) + "licensee 0;".repeat(6)
+                + "penalty 400;costs 0;reserve 0;cap 40;weight 1000*1000;");
+        for (int pair = 0; pair < 24; pair++) {
+            pool.audit(pair / 4, pair % 4, 99999);
+        }
+        for (int licensee = 0; licensee < 6; licensee++) {
+            for (long owed = pool.owed(licensee); owed > 0; owed = pool.owed(licensee)) {
+                pool.pay(licensee, (int) Math.min(owed, Integer.MAX_VALUE));
+            }
+        }
+        long all = 24L * 5 * 99999 * 9999;
+        Check.same("everything is received", all, () -> pool.total(0));
+        Check.same("everything is shared", all, pool::close);
+        for (int member = 0; member < 3; member++) {
+            int one = member;
+            Check.same("a third", all / 3, () -> pool.account(one));
+        }
     }
 
     private static void aboveLimit() {

@@ -141,6 +141,10 @@ final class TextSentences {
         Check.error("acap 5;", 1, 0);
         Check.error("capa 5;", 1, 0);
         Check.error("weight patentspairs;", 1, 7);
+        Check.error("bap 5;", 1, 0);
+        Check.error("cup 5;", 1, 0);
+        Check.error("car 5;", 1, 0);
+        Check.error("weight rays;", 1, 7);
         for (int b = 0; b < 256; b++) {
             boolean blank = b == ' ' || b == '\n';
             boolean digit = b >= '0' && b <= '9';
@@ -516,6 +520,9 @@ final class TextSentences {
         range("weight 1+(2*", 0, 9999, ")");
         Check.same("the least number", 0, () -> Check.pool("member 0;weight 0;").weight(0));
         Check.same("the highest number", 9999, () -> Check.pool("member 0;weight 9999;").weight(0));
+        PatentPool zero = Check.pool("member 0;version 0 1;patent 0 9;quorum 1 1;weight 0;");
+        zero.vote(0, 0, 0, true);
+        Check.same("the least number, though a patent counts", 0, () -> zero.weight(0));
         PatentPool pool = Check.pool("member 0;version 0 1;version 0 1;patent 0 9;patent 0 9;quorum 1 1;");
         Check.same("patents: none", 0, () -> pool.weight(0));
         pool.vote(0, 0, 0, true);
